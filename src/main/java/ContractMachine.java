@@ -78,8 +78,8 @@ public final class ContractMachine {
     // A setup text is read into this one, so that a text with an error leaves the machine as it was.
     private Rules draft = new Rules();
     private int outputLength;
-    private int reportedCode;
-    private int reportedOffset;
+    private int reportedCode = NO_ERROR;
+    private int reportedOffset = NONE;
     private boolean isSaved;
 
     public ContractMachine() {
@@ -90,8 +90,6 @@ public final class ContractMachine {
         rules.read(input);
         input.length = 0;
         now.begin(rules);
-        reportedCode = NO_ERROR;
-        reportedOffset = NONE;
     }
 
     // ---- texts
@@ -609,11 +607,6 @@ public final class ContractMachine {
             System.arraycopy(other.values, 0, values, 0, MAX_VARIABLES);
         }
 
-        void clear() {
-            state = 0;
-            Arrays.fill(values, 0);
-        }
-
         /** A number below CONFIGURATIONS, another one for each configuration. */
         int toCode() {
             return state * 1000 + values[0] * 100 + values[1] * 10 + values[2];
@@ -972,7 +965,8 @@ public final class ContractMachine {
             variables.count = 0;
             transitionCount = 0;
             invariants.count = 0;
-            initial.clear();
+            // A text with an error may have left here what is no value.
+            Arrays.fill(initial.values, 0);
         }
 
         private void readStatement(Input in) {

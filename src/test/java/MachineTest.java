@@ -13,6 +13,7 @@ final class MachineTest {
         operators();
         verdicts();
         deadlock();
+        theFullest();
         Bench.end("MachineTest");
     }
 
@@ -20,7 +21,8 @@ final class MachineTest {
         ContractMachine x = new ContractMachine();
         Bench.due(1, "outputByte(0)", x.outputByte(0), NONE);
         Bench.due(1, "truncateInput(1) of an empty buffer", x.truncateInput(1), false);
-        Bench.due(1, "errorCode()", x.errorCode(), ContractMachine.NO_ERROR);
+        Bench.due(6, "errorCode() of a new object", x.errorCode(), ContractMachine.NO_ERROR);
+        Bench.due(7, "errorOffset() of a new object", x.errorOffset(), NONE);
         Bench.dueText(1, "the configuration", Bench.configuration(x), "idle coins=0 cups=3");
         Bench.due(1, "visitsOf(0)", x.visitsOf(0), 1);
         Bench.due(1, "traceLength()", x.traceLength(), 0);
@@ -167,7 +169,11 @@ final class MachineTest {
         int[] broken = {NONE, NONE, NONE, NONE, 1};
         for (int event = 0; event < 5; event++) {
             Bench.due(26, "verdictOf(" + event + ")", x.verdictOf(event), verdict[event]);
+        }
+        for (int event = 0; event < 5; event++) {
             Bench.due(27, "chosenTransition(" + event + ")", x.chosenTransition(event), chosen[event]);
+        }
+        for (int event = 0; event < 5; event++) {
             Bench.due(28, "brokenInvariant(" + event + ")", x.brokenInvariant(event), broken[event]);
         }
         x.setValue(0, 4);
@@ -190,6 +196,54 @@ final class MachineTest {
         Bench.due(29, "isDeadlocked() where nothing is accepted", x.isDeadlocked(), true);
         x.setValue(0, 0);
         Bench.due(29, "isDeadlocked() after setValue", x.isDeadlocked(), false);
+    }
+
+    /** As much of everything as section 1 allows: the last of each kind answers, the one behind it is not there. */
+    private static void theFullest() {
+        StringBuilder text = new StringBuilder();
+        for (int i = 0; i < 10; i++) {
+            text.append("state ").append((char) ('a' + i)).append(';');
+        }
+        for (int i = 0; i < 8; i++) {
+            text.append("event ").append((char) ('k' + i)).append(';');
+        }
+        text.append("var x 1;var y 2;var z 3;");
+        for (int i = 0; i < 24; i++) {
+            text.append(i < 23 ? "on j r goto a;" : "on a r goto j;");
+        }
+        for (int i = 0; i < 12; i++) {
+            text.append("always z above0;");
+        }
+        ContractMachine x = Bench.machine(text.toString());
+        Bench.due(8, "stateCount() of the fullest", x.stateCount(), 10);
+        Bench.due(9, "eventCount() of the fullest", x.eventCount(), 8);
+        Bench.due(10, "variableCount() of the fullest", x.variableCount(), 3);
+        Bench.due(11, "transitionCount() of the fullest", x.transitionCount(), 24);
+        Bench.due(12, "invariantCount() of the fullest", x.invariantCount(), 12);
+        Bench.due(13, "stateNameByte(9, 0)", x.stateNameByte(9, 0), 'j');
+        Bench.due(14, "eventNameByte(7, 0)", x.eventNameByte(7, 0), 'r');
+        Bench.due(15, "variableNameByte(2, 0)", x.variableNameByte(2, 0), 'z');
+        Bench.due(38, "mostVisitedState() of the fullest", x.mostVisitedState(), 0);
+        Bench.due(37, "firstUncovered() of the fullest", x.firstUncovered(), 0);
+        Bench.due(51, "fire(7)", x.fire(7), ContractMachine.ACCEPTED);
+        Bench.due(16, "currentState()", x.currentState(), 9);
+        Bench.due(30, "timesTaken(23)", x.timesTaken(23), 1);
+        Bench.due(31, "visitsOf(9)", x.visitsOf(9), 1);
+        Bench.due(35, "stateCoverage() of the fullest", x.stateCoverage(), 2f / 10f);
+        Bench.due(36, "transitionCoverage() of the fullest", x.transitionCoverage(), 1f / 24f);
+        Bench.due(44, "canBeTaken(23)", x.canBeTaken(23), true);
+        Bench.due(44, "canBeTaken(1)", x.canBeTaken(1), false);
+        Bench.due(45, "stepsTo(9)", x.stepsTo(9), 0);
+        Bench.due(46, "firstEventTo(0)", x.firstEventTo(0), 7);
+        Bench.due(25, "comparisonHolds(11)", x.comparisonHolds(11), true);
+        Bench.due(24, "stateOfInvariant(11)", x.stateOfInvariant(11), NONE);
+        Bench.dueIndex(13, "stateNameByte(10, 0)", () -> x.stateNameByte(10, 0));
+        Bench.dueIndex(14, "eventNameByte(8, 0)", () -> x.eventNameByte(8, 0));
+        Bench.dueIndex(15, "variableNameByte(3, 0)", () -> x.variableNameByte(3, 0));
+        Bench.dueIndex(19, "sourceOf(24)", () -> x.sourceOf(24));
+        Bench.dueIndex(25, "comparisonHolds(12)", () -> x.comparisonHolds(12) ? 1 : 0);
+        Bench.dueIndex(51, "fire(8)", () -> x.fire(8));
+        Bench.dueIndex(43, "isReachable(10)", () -> x.isReachable(10) ? 1 : 0);
     }
 
     private MachineTest() {

@@ -138,10 +138,22 @@ final class SearchTest {
         Bench.due(42, "reachableCount() after restoreState", x.reachableCount(), 2);
         Bench.script(x, "fire e;");
         Bench.due(42, "reachableCount() after runScript", x.reachableCount(), 1);
-        Bench.feed(x, "state a;event e;var v 0;");
+        Bench.feed(x, "state a;event e;var v 4;on a e goto a do v sub 2;");
         x.loadMachine();
-        Bench.due(42, "reachableCount() after loadMachine", x.reachableCount(), 1);
-        Bench.due(47, "deadlockCount() after loadMachine", x.deadlockCount(), 1);
+        Bench.due(42, "reachableCount() after loadMachine", x.reachableCount(), 3);
+        eachIsTheFirstToSearch();
+    }
+
+    /** No method of these leans on another one that searched before it. */
+    private static void eachIsTheFirstToSearch() {
+        Bench.due(43, "isReachable(2) of a new object", new ContractMachine().isReachable(2), true);
+        Bench.due(44, "canBeTaken(5) of a new object", new ContractMachine().canBeTaken(5), true);
+        Bench.due(45, "stepsTo(2) of a new object", new ContractMachine().stepsTo(2), 4);
+        Bench.due(46, "firstEventTo(2) of a new object", new ContractMachine().firstEventTo(2), 0);
+        Bench.due(46, "firstEventTo(0) of a new object", new ContractMachine().firstEventTo(0), NONE);
+        Bench.due(47, "deadlockCount() of a new object", new ContractMachine().deadlockCount(), 1);
+        Bench.due(48, "stepsToDeadlock() of a new object", new ContractMachine().stepsToDeadlock(), 7);
+        Bench.due(49, "isConsistent() of a new object", new ContractMachine().isConsistent(), true);
     }
 
     private static void consistency() {

@@ -16,6 +16,7 @@ final class TextTest {
         buffer();
         loading();
         loadingLeavesWhatItMust();
+        loadingAgain();
         tokens();
         setupSyntax();
         setupNames();
@@ -137,6 +138,30 @@ final class TextTest {
         Bench.due(7, "errorOffset() after a good script", x.errorOffset(), NONE);
     }
 
+    /** Nothing of the texts before shows through: neither of those with an error nor of the others. */
+    private static void loadingAgain() {
+        ContractMachine x = Bench.machine("state a;state b;event e;var v 1;on a e goto b;always v below 9;");
+        Bench.feed(x, "state q;state r;state s;event f;var w 9;on q f goto q;");
+        x.truncateInput(53);
+        Bench.due(4, "loadMachine() with an error behind a good one", x.loadMachine(), NONE);
+        Bench.due(4, "stateCount()", x.stateCount(), 2);
+        Bench.due(4, "stateNameByte(0, 0)", x.stateNameByte(0, 0), 'a');
+        Bench.due(4, "initialValueOf(0)", x.initialValueOf(0), 1);
+        Bench.due(4, "targetOf(0)", x.targetOf(0), 1);
+        Bench.feed(x, "state a;event e;var v 1;var w x;");
+        Bench.due(4, "loadMachine() without a value", x.loadMachine(), NONE);
+        Bench.feed(x, "state a;event e;var v 1;on a e goto a do v add 1;");
+        Bench.due(4, "loadMachine() of one variable", x.loadMachine(), 1);
+        Bench.due(42, "reachableCount() of it", x.reachableCount(), 9);
+        for (String name : new String[] {"r", "s", "b"}) {
+            Bench.feed(x, "state a;event e;var v 1;on a e goto " + name + ";");
+            Bench.due(4, "loadMachine() with a name of a text before", x.loadMachine(), NONE);
+            Bench.due(6, "errorCode() of it", x.errorCode(), UNKNOWN_NAME);
+            Bench.feed(x, "state " + name + ";event e;var v 1;");
+            Bench.due(4, "loadMachine() with that name", x.loadMachine(), 1);
+        }
+    }
+
     private static void tokens() {
         dueSetup("  state\na\n;event e;var v009;\n ", 0, NONE);
         dueSetup("state a;event e;var v 0010;", SYNTAX, 22);
@@ -195,6 +220,11 @@ final class TextTest {
         dueSetup(WHOLE + "on a e goto b do v add 1 when v above 1;", SYNTAX, WHOLE.length() + 25);
         dueSetup(WHOLE + "on a e goto b when v over 1;", SYNTAX, WHOLE.length() + 21);
         dueSetup(WHOLE + "on a e goto b do v mul 1;", SYNTAX, WHOLE.length() + 19);
+        dueSetup(WHOLE + "always v 5;", SYNTAX, WHOLE.length() + 9);
+        dueSetup(WHOLE + "inside a v 5;", SYNTAX, WHOLE.length() + 11);
+        dueSetup(WHOLE + "on a e goto b when v 5;", SYNTAX, WHOLE.length() + 21);
+        dueSetup(WHOLE + "on a e goto b do v 5;", SYNTAX, WHOLE.length() + 19);
+        dueSetup(WHOLE + "on a e b;", SYNTAX, WHOLE.length() + 7);
         dueSetup(WHOLE + "on a e goto b do v add 10;", OUT_OF_RANGE, WHOLE.length() + 23);
         dueSetup(WHOLE + "on a e goto b when v above 10;", OUT_OF_RANGE, WHOLE.length() + 27);
         dueSetup(WHOLE + "always v above 10;", OUT_OF_RANGE, WHOLE.length() + 15);
