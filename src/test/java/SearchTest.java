@@ -147,6 +147,8 @@ final class SearchTest {
     /** No method of these leans on another one that searched before it. */
     private static void eachIsTheFirstToSearch() {
         Bench.due(43, "isReachable(2) of a new object", new ContractMachine().isReachable(2), true);
+        Bench.due(43, "isReachable(1) of a new machine",
+            Bench.machine("state a;state b;event e;var v 0;").isReachable(1), false);
         Bench.due(44, "canBeTaken(5) of a new object", new ContractMachine().canBeTaken(5), true);
         Bench.due(45, "stepsTo(2) of a new object", new ContractMachine().stepsTo(2), 4);
         Bench.due(46, "firstEventTo(2) of a new object", new ContractMachine().firstEventTo(2), 0);

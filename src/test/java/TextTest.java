@@ -342,10 +342,21 @@ final class TextTest {
         dueScript(times(setup, 30, false) + "resets;", SYNTAX, 180);
         dueScript(times(setup, 30, false) + ";", SYNTAX, 180);
         dueScript(times("fire e;", 30, false) + "  ", 0, NONE);
+        dueCutScript("fire eee;", 6, SYNTAX, 6);
+        dueCutScript("set v 12;", 7, SYNTAX, 7);
+        dueCutScript("reset;", 5, SYNTAX, 5);
         ContractMachine x = new ContractMachine();
         Bench.due(5, "a script with an error", Bench.script(x, "fire coin;fire coin;fire;"), NONE);
         Bench.due(5, "nothing of it is executed", x.acceptedCount(), 0);
         Bench.dueElement(5, "undo() after it", () -> x.undo());
+    }
+
+    /** What stood behind the cut is no part of the text. */
+    private static void dueCutScript(String text, int length, int code, int offset) {
+        ContractMachine x = Bench.machine(WHOLE);
+        Bench.feed(x, text);
+        x.truncateInput(length);
+        dueScriptError(text + " cut to " + length, x.runScript(), x, code, offset);
     }
 
     private static void scriptIsOneChange() {
