@@ -120,67 +120,70 @@ final class AnswerSentences extends Said {
 
     // ---- what has an index
 
-    private static void refused(int promise, String kind, IntUnaryOperator call, int count) {
-        promise(promise, "Throws IndexOutOfBoundsException if there is no such " + kind);
-        due("the first", answer(() -> call.applyAsInt(0)).matches("-?\\d+"), true);
-        due("the last", answer(() -> call.applyAsInt(count - 1)).matches("-?\\d+"), true);
-        for (int wrong : new int[] {-1, count, count + 1, 99, MIN, MAX}) {
-            dueIndex("index " + wrong, () -> call.applyAsInt(wrong));
-        }
+    private interface Question {
+        int answer(ContractMachine x, int index);
     }
 
     private static int bit(boolean b) {
         return b ? 1 : 0;
     }
 
-    private static void refusedIndexes() {
-        for (ContractMachine x : new ContractMachine[] {new ContractMachine(), fullest(), guarded()}) {
-            String before = everything(x);
-            int states = x.stateCount();
-            refused(13, "state", i -> x.stateNameByte(i, 0), states);
-            refused(13, "state", i -> x.stateNameByte(i, MAX), states);
-            refused(31, "state", x::visitsOf, states);
-            refused(43, "state", i -> bit(x.isReachable(i)), states);
-            refused(45, "state", x::stepsTo, states);
-            refused(46, "state", x::firstEventTo, states);
-            int events = x.eventCount();
-            refused(14, "event", i -> x.eventNameByte(i, 0), events);
-            refused(14, "event", i -> x.eventNameByte(i, -1), events);
-            refused(26, "event", x::verdictOf, events);
-            refused(27, "event", x::chosenTransition, events);
-            refused(28, "event", x::brokenInvariant, events);
-            int variables = x.variableCount();
-            refused(15, "variable", i -> x.variableNameByte(i, 0), variables);
-            refused(15, "variable", i -> x.variableNameByte(i, 9), variables);
-            refused(17, "variable", x::valueOf, variables);
-            refused(18, "variable", x::initialValueOf, variables);
-            int transitions = x.transitionCount();
-            refused(19, "transition", x::sourceOf, transitions);
-            refused(20, "transition", x::eventOf, transitions);
-            refused(21, "transition", x::targetOf, transitions);
-            refused(22, "transition", i -> bit(x.hasGuard(i)), transitions);
-            refused(23, "transition", i -> bit(x.guardHolds(i)), transitions);
-            refused(30, "transition", x::timesTaken, transitions);
-            refused(44, "transition", i -> bit(x.canBeTaken(i)), transitions);
-            int invariants = x.invariantCount();
-            refused(24, "invariant", x::stateOfInvariant, invariants);
-            refused(25, "invariant", i -> bit(x.comparisonHolds(i)), invariants);
-            due("everything after that", everything(x), before);
+    /** Asks for the first and the last of the least, the fullest and the first machine, and for what is not there. */
+    private static void refused(int promise, String kind, int[] counts, Question question) {
+        promise(promise, "Throws IndexOutOfBoundsException if there is no such " + kind);
+        ContractMachine[] machines = {new ContractMachine(), fullest(), guarded(), Bench.machine("state a;event e;var v 1;")};
+        for (int i = 0; i < machines.length; i++) {
+            ContractMachine x = machines[i];
+            int count = counts[i];
+            String before = standing(x);
+            if (count > 0) {
+                due("the first is answered", answer(() -> question.answer(x, 0)).matches("-?\\d+"), true);
+                due("the last is answered", answer(() -> question.answer(x, count - 1)).matches("-?\\d+"), true);
+            }
+            for (int wrong : new int[] {-1, count, count + 1, 99, MIN, MAX}) {
+                dueIndex("index " + wrong, () -> question.answer(x, wrong));
+            }
+            due("the standing after that", standing(x), before);
         }
-        // Where there is none at all, there is no first one either.
-        ContractMachine least = Bench.machine("state a;event e;var v 1;");
-        dueIndex("comparisonHolds(0)", () -> bit(least.comparisonHolds(0)));
-        promise(24, "Throws IndexOutOfBoundsException if there is no such invariant");
-        dueIndex("stateOfInvariant(0)", () -> least.stateOfInvariant(0));
+    }
+
+    private static void refusedIndexes() {
+        int[] states = {3, 10, 10, 1};
+        refused(13, "state", states, (x, i) -> x.stateNameByte(i, 0));
+        refused(13, "state", states, (x, i) -> x.stateNameByte(i, MAX));
+        refused(31, "state", states, (x, i) -> x.visitsOf(i));
+        refused(43, "state", states, (x, i) -> bit(x.isReachable(i)));
+        refused(45, "state", states, (x, i) -> x.stepsTo(i));
+        refused(46, "state", states, (x, i) -> x.firstEventTo(i));
+        int[] events = {3, 8, 8, 1};
+        refused(14, "event", events, (x, i) -> x.eventNameByte(i, 0));
+        refused(14, "event", events, (x, i) -> x.eventNameByte(i, -1));
+        refused(26, "event", events, (x, i) -> x.verdictOf(i));
+        refused(27, "event", events, (x, i) -> x.chosenTransition(i));
+        refused(28, "event", events, (x, i) -> x.brokenInvariant(i));
+        int[] variables = {2, 3, 3, 1};
+        refused(15, "variable", variables, (x, i) -> x.variableNameByte(i, 0));
+        refused(15, "variable", variables, (x, i) -> x.variableNameByte(i, 9));
+        refused(17, "variable", variables, (x, i) -> x.valueOf(i));
+        refused(18, "variable", variables, (x, i) -> x.initialValueOf(i));
+        int[] transitions = {6, 24, 24, 0};
+        refused(19, "transition", transitions, (x, i) -> x.sourceOf(i));
+        refused(20, "transition", transitions, (x, i) -> x.eventOf(i));
+        refused(21, "transition", transitions, (x, i) -> x.targetOf(i));
+        refused(22, "transition", transitions, (x, i) -> bit(x.hasGuard(i)));
+        refused(23, "transition", transitions, (x, i) -> bit(x.guardHolds(i)));
+        refused(30, "transition", transitions, (x, i) -> x.timesTaken(i));
+        refused(44, "transition", transitions, (x, i) -> bit(x.canBeTaken(i)));
+        int[] invariants = {2, 12, 1, 0};
+        refused(24, "invariant", invariants, (x, i) -> x.stateOfInvariant(i));
+        refused(25, "invariant", invariants, (x, i) -> bit(x.comparisonHolds(i)));
         // One that is taken back is not there any more.
-        least.addAlways(0, ContractMachine.ABOVE, 0);
-        due("stateOfInvariant(0) of an added one", least.stateOfInvariant(0), NONE);
-        least.undo();
-        dueIndex("stateOfInvariant(0) after undo", () -> least.stateOfInvariant(0));
-        promise(19, "Throws IndexOutOfBoundsException if there is no such transition");
-        dueIndex("sourceOf(0) without transitions", () -> least.sourceOf(0));
-        dueIndex("timesTaken(0) without transitions", () -> least.timesTaken(0));
-        dueIndex("guardHolds(0) without transitions", () -> bit(least.guardHolds(0)));
+        ContractMachine y = new ContractMachine();
+        y.addAlways(0, ContractMachine.BELOW, 9);
+        due("comparisonHolds(2) of an added one", y.comparisonHolds(2), true);
+        y.undo();
+        dueIndex("comparisonHolds(2) after undo", () -> bit(y.comparisonHolds(2)));
+        dueIndex("stateOfInvariant(2) after undo", () -> y.stateOfInvariant(2));
     }
 
     private static void currentAndInitial() {
@@ -641,8 +644,6 @@ final class AnswerSentences extends Said {
     }
 
     private static void consistency() {
-        ContractMachine[] all = {new ContractMachine(), Bench.machine("state a;event e;var v 0;"), fullest(), everywhere(),
-            Bench.machine(WHOLE + "on a e goto b;on b e goto a;on b f goto b do v add 3;inside a v below 5;")};
         String[] said = {"Checks the contract and the accounts.", "The current configuration breaks no invariant.",
             "The numbers of times that the transitions were taken add up to the accepted events.",
             "The rejected events are the sum over their verdicts.",
@@ -651,25 +652,41 @@ final class AnswerSentences extends Said {
             "Returns true if all of this holds, which is always the case."};
         for (int i = 0; i < said.length; i++) {
             promise(49, said[i]);
-            for (ContractMachine x : all) {
-                x.fire(i % x.eventCount());
-                x.fire(x.eventCount() - 1);
-                String before = everything(x);
-                due("isConsistent()", x.isConsistent(), true);
-                due("the accounts", accounts(x), true);
-                due("everything after isConsistent()", everything(x), before);
-                if (i == 3) {
-                    x.saveState();
-                    x.clearCoverage();
-                } else if (i == 4) {
-                    x.reset();
-                } else if (i == 5) {
-                    x.undo();
-                    x.restoreState();
-                }
-                due("isConsistent() after a change", x.isConsistent(), true);
-            }
+            consistent(new ContractMachine(), i);
+            consistent(Bench.machine("state a;event e;var v 0;"), i);
+            consistent(fullest(), i);
+            consistent(everywhere(), i);
+            consistent(Bench.machine(WHOLE + "on a e goto b;on b e goto a;on b f goto b do v add 3;inside a v below 5;"), i);
         }
+    }
+
+    /** Always the case: at first, after events, after each kind of change, and after it was taken back. */
+    private static void consistent(ContractMachine x, int turns) {
+        int events = x.eventCount();
+        due("isConsistent() at first", x.isConsistent(), true);
+        due("isConsistent() again", x.isConsistent(), true);
+        for (int i = 0; i <= turns; i++) {
+            x.fire((turns + i) % events);
+            x.fire(events - 1);
+        }
+        due("isConsistent() after events", x.isConsistent(), true);
+        due("the accounts after events", accounts(x), true);
+        x.saveState();
+        x.reset();
+        due("isConsistent() after reset", x.isConsistent(), true);
+        x.setValue(0, x.valueOf(0));
+        x.clearCoverage();
+        due("isConsistent() after clearCoverage", x.isConsistent(), true);
+        due("the accounts after clearCoverage", accounts(x), true);
+        x.undo();
+        due("isConsistent() after undo", x.isConsistent(), true);
+        x.restoreState();
+        int reachable = x.reachableCount();
+        int steps = x.stepsTo(0);
+        due("isConsistent() after restoreState", x.isConsistent(), true);
+        due("the accounts after restoreState", accounts(x), true);
+        due("reachableCount() after isConsistent()", x.reachableCount(), reachable);
+        due("stepsTo(0) after isConsistent()", x.stepsTo(0), steps);
     }
 
     /** The same sums by the answers alone. */

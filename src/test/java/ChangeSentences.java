@@ -345,23 +345,23 @@ final class ChangeSentences extends Said {
 
     private static void undo() {
         promise(56, "Undoes the latest change that has not been undone.");
-        ContractMachine x = Bench.machine(COUNTER);
-        String[] standings = new String[8];
-        Call[] changes = {() -> x.fire(0), () -> x.fire(1), () -> x.setValue(1, 9), () -> x.addAlways(1, 5, 2), () -> Bench.script(x, "fire f;fire e;"),
-            () -> x.clearCoverage(), () -> x.fire(0), () -> x.reset()};
-        for (int i = 0; i < changes.length; i++) {
-            standings[i] = everything(x);
-            changes[i].answer();
+        for (int changes = 1; changes <= 8; changes++) {
+            ContractMachine x = changed(changes);
+            for (int left = changes - 1; left >= 0; left--) {
+                due("undo() after " + changes, x.undo(), left);
+                due("the standing before change " + left, standing(x), standing(changed(left)));
+            }
+            ContractMachine y = changed(changes);
+            y.undo();
+            due("everything before change " + (changes - 1), everything(y), everything(changed(changes - 1)));
         }
-        for (int i = changes.length - 1; i >= 0; i--) {
-            due("undo() of change " + i, x.undo(), i);
-            due("everything before change " + i, everything(x), standings[i]);
-        }
+        ContractMachine x = changed(0);
+        String before = everything(x);
         x.fire(0);
         x.undo();
         x.fire(1);
         due("undo() behind an undone one", x.undo(), 0);
-        due("everything in the end", everything(x), standings[0]);
+        due("everything in the end", everything(x), before);
         undoOfTheFullest();
         promise(56, "The input buffer, the reported error, the output and the saved state stay as they are.");
         ContractMachine y = Bench.machine(COUNTER);
@@ -401,6 +401,17 @@ final class ChangeSentences extends Said {
         due("undo() of a change after that", z.undo(), 0);
     }
 
+    /** A machine after the first of eight changes of different kinds. */
+    private static ContractMachine changed(int changes) {
+        ContractMachine x = Bench.machine(COUNTER);
+        Call[] all = {() -> x.fire(0), () -> x.fire(1), () -> x.setValue(1, 9), () -> x.addAlways(1, ContractMachine.ABOVE, 2),
+            () -> Bench.script(x, "fire f;fire e;"), () -> x.clearCoverage(), () -> x.fire(0), () -> x.reset()};
+        for (int i = 0; i < changes; i++) {
+            all[i].answer();
+        }
+        return x;
+    }
+
     /** The last of each row comes back too: invariant, transition, state, verdict and event of the trace. */
     private static void undoOfTheFullest() {
         ContractMachine x = fullest();
@@ -412,21 +423,24 @@ final class ChangeSentences extends Said {
         for (int i = 0; i < 12; i++) {
             x.fire(7);
         }
-        String before = everything(x);
+        String before = standing(x);
         x.clearCoverage();
         x.reset();
         x.setValue(2, 1);
         x.fire(7);
         due("rejectedWith(INVARIANT_BROKEN)", x.rejectedWith(INVARIANT_BROKEN), 1);
-        String broken = everything(x);
         x.clearCoverage();
         due("undo() of clearCoverage", x.undo(), 7);
-        due("everything before it", everything(x), broken);
+        due("rejectedWith(INVARIANT_BROKEN) after undo", x.rejectedWith(INVARIANT_BROKEN), 1);
+        due("visitsOf(9) after undo", x.visitsOf(9), 1);
         x.undo();
         x.undo();
         x.undo();
         due("undo() of the first of them", x.undo(), 3);
-        due("everything before them", everything(x), before);
+        due("the standing before them", standing(x), before);
+        due("brokenInvariant(7), none", x.brokenInvariant(7), NONE);
+        x.setValue(2, 2);
+        dueState("setValue(2, 1), which the last invariant forbids", () -> x.setValue(2, 1));
         due("traceTransition(19)", x.traceTransition(19), 23);
         due("timesTaken(23)", x.timesTaken(23), 20);
         due("visitsOf(9)", x.visitsOf(9), 21);
@@ -502,11 +516,14 @@ final class ChangeSentences extends Said {
         // A full trace and the last of each row are saved too.
         ContractMachine y = fullest();
         Bench.script(y, "set c 1;fire h;set c 2;" + times(22, "fire h;"));
-        saved = everything(y);
+        saved = standing(y);
         y.saveState();
         Bench.script(y, "clear;reset;fire b;");
         y.restoreState();
-        due("everything of the fullest", everything(y), saved);
+        due("the standing of the fullest", standing(y), saved);
+        due("rejectedWith(INVARIANT_BROKEN)", y.rejectedWith(INVARIANT_BROKEN), 1);
+        due("timesTaken(23)", y.timesTaken(23), 21);
+        dueState("setValue(2, 1), which the last invariant forbids", () -> y.setValue(2, 1));
         due("traceEvent(19)", y.traceEvent(19), 7);
     }
 
@@ -515,12 +532,14 @@ final class ChangeSentences extends Said {
         ContractMachine x = Bench.machine(COUNTER);
         x.fire(0);
         x.saveState();
-        String saved = everything(x);
+        String saved = standing(x);
+        due("stepsTo(1)", x.stepsTo(1), 1);
         for (int i = 0; i < 3; i++) {
             Bench.script(x, "fire e;clear;fire f;set w 0;");
-            due("everything is another", everything(x).equals(saved), false);
+            due("stepsTo(1) in it, the " + i + "th", x.stepsTo(1), 0);
             x.restoreState();
-            due("everything, the " + i + "th", everything(x), saved);
+            due("the standing, the " + i + "th", standing(x), saved);
+            due("stepsTo(1), the " + i + "th", x.stepsTo(1), 1);
         }
         promise(60, "Nothing can be undone after that.");
         x.fire(0);
@@ -528,7 +547,7 @@ final class ChangeSentences extends Said {
         dueElement("undo()", () -> x.undo());
         x.fire(0);
         due("undo() of a change after it", x.undo(), 0);
-        due("everything after undo", everything(x), saved);
+        due("the standing after undo", standing(x), saved);
         promise(60, "Returns the current state after that.");
         x.fire(1);
         due("restoreState() to a", x.restoreState(), 0);

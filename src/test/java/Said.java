@@ -50,10 +50,6 @@ abstract class Said {
         long answer();
     }
 
-    interface Made {
-        ContractMachine machine();
-    }
-
     // ---- the document
 
     static void readDocument() throws IOException {
@@ -233,21 +229,23 @@ abstract class Said {
 
     // ---- all that an object can tell
 
+    // An object is used for at most 512 calls: so everything is asked for once or twice of a small machine, standing more often.
+
     /** Every answer that can be asked for without changing anything, as a text. */
     static String everything(ContractMachine x) {
         StringBuilder s = new StringBuilder(standing(x));
-        for (int i = 0; i < x.stateCount(); i++) {
+        for (int i = 0, end = x.stateCount(); i < end; i++) {
             s.append(" s").append(i).append((char) x.stateNameByte(i, 0)).append(x.isReachable(i)).append(x.stepsTo(i))
                 .append(x.firstEventTo(i));
         }
-        for (int i = 0; i < x.eventCount(); i++) {
+        for (int i = 0, end = x.eventCount(); i < end; i++) {
             s.append(" e").append(i).append((char) x.eventNameByte(i, 0)).append(x.verdictOf(i)).append(x.chosenTransition(i))
                 .append(x.brokenInvariant(i));
         }
-        for (int i = 0; i < x.variableCount(); i++) {
+        for (int i = 0, end = x.variableCount(); i < end; i++) {
             s.append(" v").append(i).append((char) x.variableNameByte(i, 0)).append(x.initialValueOf(i));
         }
-        for (int i = 0; i < x.transitionCount(); i++) {
+        for (int i = 0, end = x.transitionCount(); i < end; i++) {
             s.append(" t").append(i).append(x.sourceOf(i)).append(x.eventOf(i)).append(x.targetOf(i)).append(x.hasGuard(i))
                 .append(x.guardHolds(i)).append(x.canBeTaken(i));
         }
@@ -261,19 +259,19 @@ abstract class Said {
     /** What a change may change. */
     static String standing(ContractMachine x) {
         StringBuilder s = new StringBuilder("state ").append(x.currentState()).append(" values");
-        for (int i = 0; i < x.variableCount(); i++) {
+        for (int i = 0, end = x.variableCount(); i < end; i++) {
             s.append(' ').append(x.valueOf(i));
         }
         s.append(" invariants");
-        for (int i = 0; i < x.invariantCount(); i++) {
+        for (int i = 0, end = x.invariantCount(); i < end; i++) {
             s.append(' ').append(x.stateOfInvariant(i)).append(x.comparisonHolds(i) ? 'h' : 'b');
         }
         s.append(" visits");
-        for (int i = 0; i < x.stateCount(); i++) {
+        for (int i = 0, end = x.stateCount(); i < end; i++) {
             s.append(' ').append(x.visitsOf(i));
         }
         s.append(" taken");
-        for (int i = 0; i < x.transitionCount(); i++) {
+        for (int i = 0, end = x.transitionCount(); i < end; i++) {
             s.append(' ').append(x.timesTaken(i));
         }
         s.append(" counts ").append(x.acceptedCount()).append(' ').append(x.rejectedCount());
@@ -281,7 +279,7 @@ abstract class Said {
             s.append(' ').append(x.rejectedWith(i));
         }
         s.append(" trace");
-        for (int i = 0; i < x.traceLength(); i++) {
+        for (int i = 0, end = x.traceLength(); i < end; i++) {
             s.append(' ').append(x.traceEvent(i)).append('/').append(x.traceTransition(i));
         }
         return s.toString();

@@ -34,11 +34,11 @@ final class TermSentences extends Said {
         ContractMachine x = new ContractMachine();
         x.addAlways(1, ContractMachine.BELOW, 9);
         int accepted = 0;
-        for (int i = 0; i < 60; i++) {
+        for (int i = 0; i < 40; i++) {
             boolean isAccepted = x.fire(i * i % 7 % 3) == ACCEPTED;
             accepted += isAccepted ? 1 : 0;
             boolean keeps = true;
-            for (int k = 0; k < x.invariantCount(); k++) {
+            for (int k = 0; k < 3; k++) {
                 boolean binds = x.stateOfInvariant(k) == NONE || x.stateOfInvariant(k) == x.currentState();
                 keeps = keeps && (x.comparisonHolds(k) || !binds);
             }
