@@ -503,15 +503,18 @@ final class AnswerSentences extends Said {
 
     // ---- reachability
 
+    /** Every configuration is reachable: in the last state each value can be counted up and down, and a ring joins the states. */
     private static ContractMachine everywhere() {
-        // From the last state on every value can be counted up and down; the ring of states joins them all.
+        return Bench.machine(everyConfiguration("on i a goto j;"));
+    }
+
+    private static String everyConfiguration(String fromTheLastButOne) {
         StringBuilder text = new StringBuilder(times(10, "state #;") + times(7, "event #;") + times(3, "var # 9;"));
-        for (char s = 'a'; s < 'j'; s++) {
+        for (char s = 'a'; s < 'i'; s++) {
             text.append("on ").append(s).append(" a goto ").append((char) (s + 1)).append(';');
         }
-        text.append("on j a goto a;on j b goto j do a add 1;on j c goto j do b add 1;on j d goto j do c add 1;"
-            + "on j e goto j do a sub 1;on j f goto j do b sub 1;on j g goto j do c sub 1;");
-        return Bench.machine(text.toString());
+        return text.append(fromTheLastButOne).append("on j a goto a;on j b goto j do a add 1;on j c goto j do b add 1;on j d goto j do c add 1;"
+            + "on j e goto j do a sub 1;on j f goto j do b sub 1;on j g goto j do c sub 1;").toString();
     }
 
     private static void reachability() {
@@ -628,9 +631,15 @@ final class AnswerSentences extends Said {
         due("where the first of eight events alone is accepted", only(0).deadlockCount(), 0);
         due("where the last of eight events alone is accepted", only(7).deadlockCount(), 0);
         due("none of all configurations", everywhere().deadlockCount(), 0);
+        // The very last of all configurations that is found: in i with 0, 0 and 0.
+        ContractMachine y = Bench.machine(everyConfiguration("on i a goto j when a above 0;on i b goto j when b above 0;"
+            + "on i c goto j when c above 0;"));
+        due("the last of all configurations", y.deadlockCount(), 1);
+        due("reachableCount() then", y.reachableCount(), 10000);
         promise(48, "Returns how many accepted events are necessary to come to a deadlock. Returns the least number,"
             + " 0 if the current configuration is a deadlock, or NONE if no deadlock is reachable.");
         due("stepsToDeadlock(), to the nearer of two", x.stepsToDeadlock(), 3);
+        due("stepsToDeadlock(), to the last of all configurations", y.stepsToDeadlock(), 45);
         x.setValue(0, 9);
         due("stepsToDeadlock(), to the only one left", x.stepsToDeadlock(), 1);
         x.fire(1);

@@ -542,12 +542,12 @@ final class TextSentences extends Said {
         due("the configuration", Bench.configuration(x), "j a=1 b=1 c=1");
         due("hasGuard(23)", x.hasGuard(23), false);
         // Nor of a text with an error that was read in between.
-        Bench.feed(x, "state z;event z;var z 1;var y 2;var x 10;");
+        Bench.feed(x, "state z;event z;var z 1;var y 10;");
         x.loadMachine();
-        Bench.feed(x, "state a;event e;var v 8;on a e goto a do v add 1;");
+        Bench.feed(x, "state a;event e;var v 0;on a e goto a do v add 9;");
         due("loadMachine() behind an error", x.loadMachine(), 1);
         due("reachableCount() behind an error", x.reachableCount(), 2);
-        due("meanValue() behind an error", x.meanValue(), 8);
+        due("meanValue() behind an error", x.meanValue(), 0);
     }
 
     private static void refuses() {
