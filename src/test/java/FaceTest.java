@@ -1,7 +1,6 @@
 import java.io.DataInputStream;
 import java.io.IOException;
 import java.io.InputStream;
-import java.lang.reflect.Constructor;
 import java.lang.reflect.Field;
 import java.lang.reflect.Method;
 import java.lang.reflect.Modifier;
@@ -11,14 +10,12 @@ import java.util.ArrayList;
 import java.util.List;
 import java.util.Set;
 import java.util.TreeSet;
-import java.util.regex.Matcher;
 import java.util.regex.Pattern;
 import java.util.stream.Collectors;
 import java.util.stream.Stream;
 
 /** The face is the document's, to the letter, and the class keeps to what ../shared/LANGUAGE.md leaves. */
 final class FaceTest {
-    private static final Path DOCUMENT = Path.of("../shared/DOC.md");
     private static final Path SOURCE = Path.of("src/main/java/ContractMachine.java");
     private static final Set<String> LIBRARY = Set.of("java/lang/Object.<init>", "java/lang/String.length",
         "java/lang/String.charAt", "java/util/Arrays.fill", "java/lang/System.arraycopy",
@@ -53,46 +50,17 @@ final class FaceTest {
     }
 
     private static void face() throws IOException {
-        String document = Files.readString(DOCUMENT);
-        String block = document.substring(document.indexOf("```java"));
-        block = block.substring(0, block.indexOf("\n```"));
         Set<String> want = new TreeSet<>();
-        Matcher line = Pattern.compile("(?m)^    (public .*);$").matcher(block);
-        while (line.find()) {
-            want.add(line.group(1).replaceAll("(int|boolean) [a-z]+(?=[,)])", "$1"));
+        for (String line : Face.linesOfDocument()) {
+            if (Face.isMember(line)) {
+                want.add(Face.withoutNames(line));
+            }
         }
-        Set<String> got = new TreeSet<>();
+        Set<String> got = Face.ofClass();
         Class<?> c = ContractMachine.class;
         due("the class is public and final", Modifier.isPublic(c.getModifiers()) && Modifier.isFinal(c.getModifiers()));
-        for (Field f : c.getDeclaredFields()) {
-            if (!Modifier.isPrivate(f.getModifiers())) {
-                got.add(Modifier.toString(f.getModifiers()) + " " + f.getType() + " " + f.getName() + " = " + value(f));
-            }
-        }
-        for (Constructor<?> m : c.getDeclaredConstructors()) {
-            got.add(Modifier.toString(m.getModifiers()) + " ContractMachine()" + (m.getParameterCount() > 0 ? "?" : ""));
-        }
-        for (Method m : c.getDeclaredMethods()) {
-            if (!Modifier.isPrivate(m.getModifiers())) {
-                got.add(Modifier.toString(m.getModifiers()) + " " + m.getReturnType() + " " + m.getName() + "("
-                    + names(m.getParameterTypes()) + ")"
-                    + (m.getExceptionTypes().length > 0 ? " throws " + names(m.getExceptionTypes()) : ""));
-            }
-        }
         due("the document's face has 20 constants, the constructor and 59 methods", want.size() == 80);
         due("the face: " + got + "\nis not the document's: " + want, got.equals(want));
-    }
-
-    private static String names(Class<?>[] types) {
-        return Stream.of(types).map(Class::getSimpleName).collect(Collectors.joining(", "));
-    }
-
-    private static Object value(Field constant) {
-        try {
-            return constant.get(null);
-        } catch (ReflectiveOperationException | NullPointerException e) {
-            return "no constant";
-        }
     }
 
     private static void size(Class<?> c) {
@@ -152,6 +120,12 @@ final class FaceTest {
         for (String ruledOut : new String[] {"->", "::", "\\bfinally\\b", "\\bsynchronized\\b", "\\bassert\\b", "\\bcatch\\b",
             "\\btry\\b", "\\bpackage\\b", "static \\{", "\\bvolatile\\b", "\"\" *\\+", "\\+ *\"\""}) {
             due("the source holds " + ruledOut, !Pattern.compile(ruledOut).matcher(code).find());
+        }
+        for (String line : code.split("\n")) {
+            // An array or object is made with its field, or in History's constructor; an exception is thrown at once.
+            due("made outside of a constructor: " + line.trim(), !line.matches(".*\\bnew .*")
+                || line.matches(" {4}( {4})?private (final )?\\S+ \\w+ = new .*;| {8}final \\S+ \\w+ = new .*;")
+                || line.contains("throw new ") || line.equals("                past[i] = new Standing();"));
         }
         int length = 0;
         String method = "";

@@ -9,8 +9,8 @@ import java.util.regex.Pattern;
 
 /**
  * Ties each test to the sentence of the document that it tests. A test quotes its sentence first; what it checks
- * then counts for that sentence. In the end the whole document must have been quoted, from its terms to its last
- * promise, and no quoted sentence may be without a check.
+ * then counts for that sentence. In the end the whole document must have been quoted, from its first line to its
+ * last, and no quoted sentence may be without a check, but those that leave something free.
  */
 abstract class Said {
     static final int NONE = ContractMachine.NONE;
@@ -32,7 +32,7 @@ abstract class Said {
     /** A whole machine, to which statements are joined and on which scripts are run. */
     static final String WHOLE = "state a;state b;event e;event f;var v 1;var w 2;";
 
-    private static final Pattern HEAD = Pattern.compile("## Terms|## Promise (\\d+): .*? .*?\\([^)]*\\)( throws [^:]*)?:"
+    private static final Pattern HEAD = Pattern.compile("# ContractMachine|## (?:What it is|The public face|Terms|Not promised)|## Promise (\\d+): .*? .*?\\([^)]*\\)( throws [^:]*)?:"
         + "|(\\d)\\. [A-Za-z ]+\\.|The constants:");
 
     /** The words behind a parameter that say no more than the sentence of the exception does. */
@@ -54,10 +54,10 @@ abstract class Said {
 
     static void readDocument() throws IOException {
         String all = Files.readString(Path.of("../shared/DOC.md"));
-        String text = all.substring(all.indexOf("## Terms"), all.indexOf("## Not promised")).replace("`", "");
-        String[] parts = text.split("(?m)^(?=## Promise |\\d\\. |The constants: )");
+        String text = all.replaceAll("```[a-z]*", " ").replace("`", "");
+        String[] parts = text.split("(?m)^(?=## |\\d\\. |The constants: )");
         for (String part : parts) {
-            String plain = part.replace("text\n", " ").replaceAll("\\s+", " ").trim() + " ";
+            String plain = part.replaceAll("\\s+", " ").trim() + " ";
             Matcher head = HEAD.matcher(plain);
             if (!head.lookingAt()) {
                 fail("the document has a part without a head: " + plain);
@@ -109,6 +109,12 @@ abstract class Said {
         for (; at >= 0; at = text.indexOf(words, at + 1)) {
             mark(QUOTED.get(place), at, at + words.length());
         }
+    }
+
+    /** What the document leaves free: there is nothing to check of it. */
+    static void free(String place, String words) {
+        quote(place, words);
+        checksOfSentence = 1;
     }
 
     static void end() {

@@ -2,6 +2,7 @@
 final class SentencesTest {
     public static void main(String[] args) throws Exception {
         Said.readDocument();
+        FaceSentences.test();
         TermSentences.test();
         TextSentences.test();
         AnswerSentences.test();
